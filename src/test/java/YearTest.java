@@ -76,18 +76,17 @@ public final class YearTest {
 
     private static void lettingByBids() {
         // Month 0: like bids, the first one; 1: the greatest; 2: the greatest that a purse has;
-        // 3: a purse just as large; 4: nobody's purse; 5: no bids.
+        // 3: a purse just as large; 4: the one purse left; 5: beyond that purse; 6: no bids.
         RentRiver river = Check.river("town a 0 9 0 10;town b 0 9 0 20;"
             + "bid a 0 4;bid b 0 4;bid a 1 1;bid b 1 2;bid a 2 7;bid b 2 5;bid a 3 6;bid b 3 3;"
-            + "bid a 4 1;bid b 4 11;");
+            + "bid a 4 12;bid b 4 11;bid b 5 3;");
         river.begin();
         river.on(12);
-        int[] due = {0, 1, 1, 0, 8, 8};
-        int[] paid = {4, 2, 5, 6, 0, 0};
+        int[] due = {0, 1, 1, 0, 1, 8, 8};
+        int[] paid = {4, 2, 5, 6, 11, 0, 0};
         for (int month = 0; month < due.length; month++) {
-            boolean bPays = month == 4;
-            check.due("let(" + month + ", 0)", river.let(month, 0), bPays ? 1 : due[month]);
-            check.due("let(" + month + ", 2)", river.let(month, 2), bPays ? 11 : paid[month]);
+            check.due("let(" + month + ", 0)", river.let(month, 0), due[month]);
+            check.due("let(" + month + ", 2)", river.let(month, 2), paid[month]);
         }
         check.due("town(0, 1)", river.town(0, 1), 0);
         check.due("town(1, 1)", river.town(1, 1), 2);
