@@ -12,7 +12,7 @@ public final class RentRiver {
     private static final int MOST_TOWNS = 8;
     private static final int MOST_BIDS = 40;
     private static final int MONTHS = 12;
-    /** The number by which calls tell the SEA; where it lies depends on how many towns there are. */
+    /** The number by which calls tell the SEA; its place in the row is behind the last town. */
     private static final int SEA = 8;
     private static final int MOST_NUMBER = 999;
 
@@ -57,7 +57,7 @@ public final class RentRiver {
     private static final int MOST_YEARS = 100;
     private static final int MORE_WATER = 100;
     /** Twelve months of two digits, two names of eight letters, three digits and four signs. */
-    private static final int TEXT_BYTES = 312;
+    private static final int TEXT_BYTES = 300;
 
     private final Tape tape = new Tape();
     private final State now = new State();
@@ -340,7 +340,8 @@ public final class RentRiver {
         int most = NONE;
         for (int month = 0; month < MONTHS; month++) {
             boolean free = (taken >> month & 1) == 0;
-            if (free && (most == NONE || now.plain.gain(town, month) > now.plain.gain(town, most))) {
+            int gain = now.plain.gain(town, month);
+            if (free && (most == NONE || gain > now.plain.gain(town, most))) {
                 most = month;
             }
         }
@@ -784,7 +785,7 @@ public final class RentRiver {
         int patience = PATIENCE;
         /** Which text read as a PLAIN this one is. */
         int serial = 0;
-        /** What can be told once and has been, as bits: of each town, months of WATER, the others. */
+        /** What can be told once and has been: of each town and of WATER as bits, then the rest. */
         private final int[] toldOf = new int[MOST_TOWNS];
         private int toldWater = 0;
         private boolean toldMove = false;
@@ -1501,7 +1502,8 @@ public final class RentRiver {
             if (town == SEA || town == NONE) {
                 return 0;
             }
-            boolean there = months > 0 && (letTo[months - 1] == town || letAlso[months - 1] == town);
+            int ahead = months - 1;
+            boolean there = ahead >= 0 && (letTo[ahead] == town || letAlso[ahead] == town);
             return there ? 0 : plain.told[town][BRIDGE];
         }
 

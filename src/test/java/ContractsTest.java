@@ -8,6 +8,7 @@ public final class ContractsTest {
         faults();
         aFaultLeavesThem();
         lettingByThem();
+        halves();
         check.end();
     }
 
@@ -94,6 +95,30 @@ public final class ContractsTest {
         check.due("let(" + month + ", 0)", river.let(month, 0), town);
         check.due("let(" + month + ", 1)", river.let(month, 1), other);
         check.due("let(" + month + ", 2)", river.let(month, 2), paid);
+    }
+
+    private static void halves() {
+        // Each must have its own half, and no more.
+        String[] texts = {"town a 0 9 0 3;town b 0 9 0 2;", "town a 0 9 0 2;town b 0 9 0 99;",
+            "town a 0 9 0 99;town b 0 9 0 1;", "town a 0 9 0 2;town b 0 9 0 3;"};
+        boolean[] pays = {true, false, false, false};
+        for (int i = 0; i < texts.length; i++) {
+            RentRiver river = Check.river(texts[i]);
+            Check.contracts(river, "let 0 a b 5;");
+            river.begin();
+            river.on(1);
+            let(river, 0, pays[i] ? 0 : 8, pays[i] ? 1 : -1, pays[i] ? 5 : 0);
+            check.due("year(2)", river.year(2), pays[i] ? 5 : 0);
+            check.due("town(0, 5)", river.town(0, 5), pays[i] ? 3 : 0);
+            check.due("town(1, 5)", river.town(1, 5), pays[i] ? 2 : 0);
+        }
+        // A shore shares nothing, first or second.
+        RentRiver river = Check.river("town a 0 9 1 9;town b 0 9 0 9;patience 1;");
+        Check.contracts(river, "let 1 a b 0;let 2 b a 0;");
+        river.begin();
+        river.on(3);
+        let(river, 1, 8, -1, 0);
+        let(river, 2, 8, -1, 0);
     }
 
     private static void lettingByThem() {

@@ -58,6 +58,9 @@ public final class ImageTest {
         for (int k = -1; k < 8; k++) {
             parts[5] = parts[5] * 31 + river.said(k);
         }
+        for (int i = river.write(); i >= 0; i--) {
+            parts[5] = parts[5] * 31 + river.byteAt(i);
+        }
         return parts;
     }
 
@@ -70,7 +73,7 @@ public final class ImageTest {
     private static RentRiver full() {
         RentRiver river = Check.river(PLAIN);
         Check.contracts(river, "let 1 a b 3;sea 4;");
-        Check.sentence(river, "paid > 1 and not place = 0");
+        Check.sentence(river, "paid > 6 and not place = 0 or purse < 25");
         river.offer(1, 5, 7);
         river.begin();
         river.on(3);
@@ -84,8 +87,12 @@ public final class ImageTest {
         river.on(5);
         river.offer(0, 0, 0);
         river.contracts();
-        Check.sentence(river, "shore");
+        Check.sentence(river, "dry < 9 and not pond > 3 or lets = 7");
         Check.plain(river, OTHER);
+        Check.contracts(river, "let 0 c 1;let 1 c 2;let 2 c 3;");
+        Check.sentence(river, "dry < 9 and not pond > 3 or lets = 7");
+        river.begin();
+        river.on(6);
         check.due("restore(0)", river.restore(0), true);
         same("restored", shown(river), before);
         check.due("it goes on", river.on(12), 9);

@@ -50,6 +50,7 @@ public final class LeaksTest {
         check.due("leak(0, -1)", river.leak(0, -1), -1);
         check.due("leaks() of two months", Check.leaks(river, 1, 0, 18, 2, 0, 13), 1);
         leak(river, 0, 0, 2, 4);
+        check.due("leaks() of the later month alone", Check.leaks(river, 2, 0, 13), 2);
         check.due("leaks() that can't be", Check.leaks(river, 1, 0, 19), 0);
         check.due("leak(0, 0)", river.leak(0, 0), -1);
         check.due("no year by it", river.year(0), -1001);

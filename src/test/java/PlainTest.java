@@ -15,6 +15,7 @@ public final class PlainTest {
         faultsOfLength();
         aFaultLeavesThePlain();
         aNewPlainForgets();
+        textsReadAgainAndAgain();
         check.end();
     }
 
@@ -205,6 +206,29 @@ public final class PlainTest {
         check.due("fault()", river.fault(), 0);
         check.due("sentence() with a fault", Check.sentence(river, "shore or"), -9);
         check.due("fault()", river.fault(), 1);
+    }
+
+    private static void textsReadAgainAndAgain() {
+        RentRiver river = new RentRiver();
+        String full = A + "town b 2 2 2 2;bid a 3 7;need a 4;mill a 1;bridge a 1;field a 1 1;"
+            + "patience 1;fish 3;move 5;water 2 3;";
+        for (int i = 0; i < 3; i++) {
+            check.due("plain() of a full text", Check.plain(river, full), 11);
+            check.due("plain() with a fault at the end", Check.plain(river, full + "x"), -full.length() - 1);
+            check.due("count(1)", river.count(1), 1);
+            check.due("plain() of nothing", Check.plain(river, ""), 0);
+            int[] counts = {0, 0, 0, 0, 3, 0, 0};
+            for (int what = 0; what < counts.length; what++) {
+                check.due("count(" + what + ")", river.count(what), counts[what]);
+            }
+            check.due("water(2)", river.water(2), 0);
+            check.due("plain() of a town", Check.plain(river, "town z 0 0 0 0;"), 1);
+            for (int what = 0; what < 9; what++) {
+                check.due("told(0, " + what + ")", river.told(0, what), 0);
+            }
+            check.due("bid(0, 3)", river.bid(0, 3), 0);
+            check.due("a name of before", Check.plain(river, "need a 1;"), -6);
+        }
     }
 
     private static void aNewPlainForgets() {

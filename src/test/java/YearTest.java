@@ -47,6 +47,21 @@ public final class YearTest {
         year(river, 0, 8, 0, 8, 0, 0, 0, 0, 0, 0, 0);
         town(river, 0, 0, 7, 0, 0, 0, 0, 0, 0, 0, 0);
         check.due("droughts()", river.droughts(), 0);
+        river = Check.river("town a 1 2 1 7;fish 8;water 0 5;water 1 9;bid a 0 3;move 2;bridge a 1;");
+        for (int i = 0; i < 2; i++) {
+            river.begin();
+            year(river, 0, 8, 0, 8, 0, 0, 0, 0, 0, 0, 0);
+            river.on(1);
+            year(river, 1, 0, 0, 7, 5, 1, 1, 2, 1, 1, 3);
+            river.on(1);
+            year(river, 2, 8, -2, 6, 14, 2, 1, 11, 0, 1, 5);
+        }
+        // What a year before told of its months is not told of this one.
+        Check.contracts(river, "let 0 a 99;");
+        river.begin();
+        river.on(1);
+        check.due("let(0, 0)", river.let(0, 0), 8);
+        check.due("let(0, 2)", river.let(0, 2), 0);
     }
 
     private static void wrongAsks() {
@@ -201,8 +216,8 @@ public final class YearTest {
         check.due("thirsty() without towns", river.thirsty(), -1);
         river = Check.river("town a 0 99 1 9;town b 0 10 0 9;town c 0 99 9 9;need a 1;need b 11;need c 0;"
             + "water 3 50;bid b 3 1;patience 12;");
-        check.due("shoresOf()", river.shoresOf(), 5);
         check.due("thirsty(), as 10 alone come to b", river.thirsty(), 3);
+        check.due("shoresOf()", river.shoresOf(), 5);
         check.due("no year by it", river.year(0), -1001);
         Check.contracts(river, "let 3 a 0;");
         check.due("shoresOf() by contracts", river.shoresOf(), 4);
@@ -234,6 +249,11 @@ public final class YearTest {
         check.due("the text of the year", Check.written(river).equals(all), true);
         check.due("byteAt() behind its end", river.byteAt(all.length()), -1);
         check.due("byteAt(-1)", river.byteAt(-1), -1);
+        Check.contracts(river, "let 0 z 9;let 1 z 10;let 2 z 99;let 3 z 100;");
+        river.begin();
+        river.on(4);
+        check.due("numbers of one to three digits",
+            Check.written(river).equals("0 z 9;1 z 10;2 z 99;3 z 100;"), true);
         Check.plain(river, "town yyyyyyyy 0 9 0 999;town xxxxxxxx 0 9 0 999;");
         check.due("write() without a year", river.write(), -1);
         check.due("byteAt(0) of the text made last", river.byteAt(0), '0');
