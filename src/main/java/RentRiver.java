@@ -1642,6 +1642,8 @@ public final class RentRiver {
         private static final int HALF = MONTHS / 2;
         /** Three towns for each of six months. */
         private static final int TAILS = 729;
+        /** More than any plan costs. */
+        private static final int BEYOND_ALL = 1000000;
 
         /** The plan of the latest search that found one, and of which PLAIN it is. */
         final int[] plan = new int[MONTHS];
@@ -1679,9 +1681,9 @@ public final class RentRiver {
         private int searchPlan(Plain plain) {
             prepare(plain);
             listTails();
-            bestPaid = Integer.MAX_VALUE;
+            bestPaid = BEYOND_ALL;
             tryMonth(0, towns, 0);
-            if (bestPaid == Integer.MAX_VALUE) {
+            if (bestPaid == BEYOND_ALL) {
                 return NONE;
             }
             for (int month = 0; month < MONTHS; month++) {

@@ -86,7 +86,7 @@ public final class LanguageTest {
         check.due("signs 1 to 127", text.chars().allMatch(c -> c > 0 && c < 128), true);
         String[] never = {"->", "::", "package ", "finally", "synchronized", "assert ", "catch", "try {",
             "static {", "@", "Exact(", "String.", "\" + ", " + \"", "getMessage", "hashCode", "toString",
-            "System.out", "Random", "Thread", "nanoTime", "ordinal", "default ->"};
+            "System.out", "Random", "Thread", "nanoTime", "ordinal", "Integer.", "Long."};
         for (String sign : never) {
             check.due("'" + sign + "' in the program", text.contains(sign), false);
         }
