@@ -96,6 +96,7 @@ public final class PlainTest {
         fault("town\ta 1 1 1 1;", 1, 4);
         fault("move (1);", 1, 5);
         fault("fish 1000;", 1, 5);
+        fault("water 0 a;?", 1, 8);
         fault(A + "bid a 0;", 1, 22);
         fault(A + "bid bid 0 1;", 1, 19);
         fault(A + "need 1;", 1, 20);

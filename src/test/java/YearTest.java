@@ -56,6 +56,16 @@ public final class YearTest {
             river.on(1);
             year(river, 2, 8, -2, 6, 14, 2, 1, 11, 0, 1, 5);
         }
+        river.begin();
+        river.on(1);
+        river.begin();
+        year(river, 0, 8, 0, 8, 0, 0, 0, 0, 0, 0, 0);
+        Check.contracts(river, "sea 0;");
+        river.begin();
+        river.on(12);
+        check.due("droughts()", river.droughts(), 4095);
+        river.begin();
+        check.due("droughts()", river.droughts(), 0);
         // What a year before told of its months is not told of this one.
         Check.contracts(river, "let 0 a 99;");
         river.begin();
@@ -214,6 +224,8 @@ public final class YearTest {
         RentRiver river = new RentRiver();
         check.due("shoresOf() without towns", river.shoresOf(), -1);
         check.due("thirsty() without towns", river.thirsty(), -1);
+        river = Check.river("town a 0 99 0 9;water 3 50;bid a 3 1;need a 50;");
+        check.due("thirsty() of one that has just enough", river.thirsty(), 0);
         river = Check.river("town a 0 99 1 9;town b 0 10 0 9;town c 0 99 9 9;need a 1;need b 11;need c 0;"
             + "water 3 50;bid b 3 1;patience 12;");
         check.due("thirsty(), as 10 alone come to b", river.thirsty(), 3);
