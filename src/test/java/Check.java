@@ -15,6 +15,11 @@ final class Check {
         due(call, got ? 1 : 0, want ? 1 : 0);
     }
 
+    /** Behind a call that is refused: what all calls tell is what they told before. */
+    void unchanged(String call, Seen before, RentRiver river) {
+        due("nothing changed by " + call, before.same(Seen.of(river)), true);
+    }
+
     /** Ends the test: with exit code 1, if an answer was not the one that is due. */
     void end() {
         if (asked == 0 || wrong != 0) {
@@ -78,6 +83,22 @@ final class Check {
         if (plain(river, text) < 0) {
             throw new IllegalStateException("the test's plain has a fault: " + text);
         }
+        return river;
+    }
+
+    /** An object of which every call has something to tell, the fourth month of its YEAR being next. */
+    static RentRiver full() {
+        RentRiver river = river("town a 1 50 2 30;town b 2 60 1 40;water 0 20;water 2 30;bid a 0 5;"
+            + "bid b 2 6;bid a 2 6;move 2;fish 9;patience 4;need a 3;bridge b 1;mill a 2;field b 1 3;");
+        contracts(river, "let 1 a b 3;sea 4;");
+        sentence(river, "paid > 6 and not place = 0 or purse < 28");
+        river.begin();
+        river.on(3);
+        river.rounds(2);
+        river.cheapest();
+        leaks(river, 1, 0, 16, 0, 0);
+        river.write();
+        sentence(river, "shore or");
         return river;
     }
 
