@@ -30,6 +30,7 @@ public final class EdgesOfAsksTest {
         promise34ByteAt();
         promise35Worth();
         promise36Drawn();
+        promise36EachDraw();
         promise37Shores();
         promise38Must();
         promise38OnePurseMore();
@@ -76,6 +77,24 @@ public final class EdgesOfAsksTest {
         RentRiver river = Check.river(all.toString());
         check.due("cheapest() of twelve months", river.cheapest(), 3);
         plan(river, 2, 2, 2, 2, 1, 1, 1, 1, 0, 0, 0, 0);
+        // All twelve for the last town, and for the only one.
+        river = Check.river(all.toString().replace("need a 4;need b 4;need c 4;", "need c 12;"));
+        check.due("cheapest() of the last town alone", river.cheapest(), 1);
+        plan(river, 2);
+        Check.plain(river, A + "need a 12;" + all.substring(all.indexOf("move")));
+        check.due("cheapest() of one town alone", river.cheapest(), 1);
+        plan(river, 0);
+        // The nearest town first, though plans that begin further off come first.
+        river = Check.river(three + "need b 1;need c 1;water 3 1;water 7 1;move 10;");
+        check.due("cheapest() of the nearest first", river.cheapest(), 20);
+        plan(river, 2, 2, 2, 2, 1);
+        // There and back is cheaper than to begin with the town further off.
+        river = Check.river(A + "town b 0 9 0 9;need a 2;need b 2;water 1 1;water 4 2;water 5 1;move 3;");
+        check.due("cheapest() there and back", river.cheapest(), 9);
+        plan(river, 1, 1, 0, 0, 0, 1);
+        river = Check.river(three + "need b 2;need c 1;water 4 2;water 5 1;move 1;");
+        check.due("cheapest() of the nearest last", river.cheapest(), 3);
+        plan(river, 1, 1, 1, 1, 1, 2);
         // A year's state, STORE and USE count nothing.
         check.due("cheapest() without a store", cheapest("town a 0 0 99 0;need a 9;water 0 9;move 2;"), 2);
     }
@@ -118,7 +137,7 @@ public final class EdgesOfAsksTest {
         plan(river, 1, 1, 1, 1, 0);
         // Straight to a and back to b costs a place more.
         river = Check.river("town a 0 9 0 9;town b 9 9 0 9;need a 1;need b 1;water 3 1;water 7 10;move 10;");
-        check.due("cheapest() there and back", river.cheapest(), 30);
+        check.due("cheapest() past one and back", river.cheapest(), 30);
         plan(river, 0, 0, 0, 0, 0, 0, 0, 1);
     }
 
@@ -184,6 +203,13 @@ public final class EdgesOfAsksTest {
         check.unchanged("take()", before, river);
         check.due("cheapest() of it", river.cheapest(), 0);
         check.due("take()", river.take(), true);
+        // The plain of a new object is another one than the first text's.
+        RentRiver first = new RentRiver();
+        first.image(0);
+        Check.plain(first, text);
+        first.cheapest();
+        first.restore(0);
+        check.due("take() in the plain of a new object", first.take(), false);
         // A plan of another plain than the latest cheapest(), which could not be.
         Check.plain(river, A + "need a 1;");
         check.due("cheapest()", river.cheapest(), -1);
@@ -415,6 +441,7 @@ public final class EdgesOfAsksTest {
             check.due("wettest(" + far + ")", river.wettest(far), -1);
         }
         check.due("wettest(0) of like ones", Check.river(A).wettest(0), 0);
+        check.due("wettest(0) of month 1", Check.river(A + "water 1 1;").wettest(0), 1);
         check.due("wettest(0) of month 11", Check.river(A + "water 11 1;").wettest(0), 11);
         check.due("wettest(0) of month 0", Check.river(A + "water 0 2;water 11 2;").wettest(0), 0);
         check.due("wettest(0) without towns", new RentRiver().wettest(0), -1);
@@ -621,6 +648,37 @@ public final class EdgesOfAsksTest {
         }
         river = Check.river("town a 90 999 " + more + " 9;water 0 90;" + bids);
         check.due("drawn(" + seed + ") and water", river.drawn(seed), 6);
+    }
+
+    /**
+     * "in each MONTH a draw": a town that is dry up to a month, and in it has all that was drawn, is
+     * no SHORE if it uses as much, and is one if it uses one more; a bid behind it tells which.
+     */
+    private static void promise36EachDraw() {
+        int[] seeds = {0, 1, 2, -1, 123456789, Integer.MAX_VALUE, Integer.MIN_VALUE};
+        for (int seed : seeds) {
+            long x = seed & 0xffffffffL;
+            for (int month = 0; month < 12; month++) {
+                x = (x * 1103515245L + 12345L) & 0xffffffffL;
+                int draw = (int) ((x >> 8) % 100);
+                shoreByDraw(seed, month, draw, 0);
+                if (draw < 99) {
+                    shoreByDraw(seed, month, draw + 1, 1);
+                }
+            }
+        }
+    }
+
+    private static void shoreByDraw(int seed, int month, int use, int shore) {
+        String bid = month < 11 ? "bid a " + (month + 1) + " 5;" : "";
+        RentRiver river = Check.river("town a 0 999 " + use + " 9;patience " + (month + 1) + ";" + bid);
+        Check.contracts(river, "let " + month + " a 0;");
+        String of = "(" + seed + "), month " + month + ", use of " + use;
+        if (month < 11) {
+            check.due("drawn" + of, river.drawn(seed), shore == 1 ? 0 : 5);
+        } else {
+            check.due("shores" + of, river.shores(0, 1, seed), shore);
+        }
     }
 
     /** "Of n (1 to 100) YEARS DRAWN by seeds x, x and 1, ..", "NONE: no such ones" */

@@ -13,6 +13,7 @@ public final class EdgesOfCallsTest {
         promise4Plain();
         promise4EmptyTape();
         promise4NewPlain();
+        promise4Without();
         promise5Fault();
         promise6Told();
         promise7Bid();
@@ -201,6 +202,33 @@ public final class EdgesOfCallsTest {
         check.due("undo()", river.undo(), -1);
         river.begin();
         check.due("said(-1)", river.said(-1), -1);
+    }
+
+    /** "0 without", "3 without": rows that a text of before told, of this one nothing. */
+    private static void promise4Without() {
+        StringBuilder told = new StringBuilder("move 9;fish 9;patience 9;");
+        for (int month = 0; month < 12; month++) {
+            told.append("water ").append(month).append(" 9;");
+        }
+        for (int town = 0; town < 8; town++) {
+            char name = (char) ('a' + town);
+            told.append("town ").append(name).append(" 9 9 9 9;field ").append(name).append(" 9 9;");
+        }
+        StringBuilder more = new StringBuilder();
+        StringBuilder bare = new StringBuilder();
+        for (int town = 0; town < 8; town++) {
+            char name = (char) ('a' + town);
+            bare.append("town ").append(name).append(" 0 0 0 0;");
+            more.append("bid ").append(name).append(" 0 9;bid ").append(name).append(" 11 9;need ");
+            more.append(name).append(" 9;mill ").append(name).append(" 9;bridge ").append(name).append(" 9;");
+        }
+        RentRiver river = new RentRiver();
+        check.due("plain() of rows", Check.plain(river, told.toString()), 31);
+        check.due("plain() of rows", Check.plain(river, bare.toString() + more), 48);
+        for (int i = 0; i < 3; i++) {
+            check.due("plain() of towns alone", Check.plain(river, bare.toString()), 8);
+            check.unchanged("texts of before", Seen.of(Check.river(bare.toString())), river);
+        }
     }
 
     /** "of the latest plain(), contracts() or sentence(); 0 without one and ahead of any" */

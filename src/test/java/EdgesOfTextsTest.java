@@ -249,6 +249,7 @@ public final class EdgesOfTextsTest {
         plainRows("water 0 0;water 1 0;water 11 0;", 3);
         plainFault("water 0 0;water 0 0;", 3, 16);
         plainFault("water 11 0;water 011 0;", 3, 17);
+        plainFault("water 0 0;water 1 0;water 0 0;", 3, 26);
         plainFault("move 0;move 0;", 3, 7);
         plainFault("fish 0;fish 0;", 3, 7);
         plainFault("patience 3;patience 3;", 3, 11);
@@ -264,6 +265,7 @@ public final class EdgesOfTextsTest {
     private static void toldOnceOfEachTown() {
         plainRows(AB + "need a 0;need b 0;mill a 0;mill b 0;bridge a 0;bridge b 0;field a 0 0;field b 0 0;", 10);
         plainFault(AB + "need a 0;need b 0;need a 0;", 3, 53);
+        plainFault(AB + "need a 0;mill a 0;need a 0;", 3, 53);
         plainFault(AB + "mill b 0;mill a 0;mill b 0;", 3, 53);
         plainFault(AB + "bridge a 0;bridge a 0;", 3, 48);
         plainFault(AB + "field b 0 0;field b 0 0;", 3, 48);
@@ -302,6 +304,7 @@ public final class EdgesOfTextsTest {
         RentRiver river = Check.river(towns(8) + "mill a 1;mill h 9;");
         check.due("told(0, 5)", river.told(0, 5), 1);
         check.due("told(7, 5)", river.told(7, 5), 9);
+        plainFault(towns(8) + "bid i 0 1;", 3, 124);
         plainFault(towns(9), 4, 120);
         plainFault(towns(8) + "town a", 4, 120);
         plainFault(towns(8) + "town 1", 4, 120);
@@ -333,6 +336,7 @@ public final class EdgesOfTextsTest {
         String nineteen = "shore" + Check.times(" or shore", 18);
         ones(nineteen, 19);
         ones(nineteen + " or pond=1", 20);
+        ones("dry=1" + Check.times(" and dry=1", 19), 20);
         ones("shore" + Check.times(" or not dry=1", 9) + " or dry=1", 20);
         ones("shore" + Check.times(" or(dry=1)", 9) + " or dry=1", 20);
         int place = nineteen.length() + 4;
@@ -448,11 +452,18 @@ public final class EdgesOfTextsTest {
         plainFault(A + "bid a 0 0;bid a 0 0;", 2, 23);
         plainFault("water 12 ?;", 2, 6);
         plainFault("town a 100 1000 100 1000;", 2, 7);
+        plainFault(A + "field a 100 100;", 2, 23);
+        plainFault("move 100 100;", 2, 5);
+        plainFault("fish 9999 9;", 1, 5);
+        plainFault("patience 13 13;", 2, 9);
         contractFault("let 12 c c ?;", 2, 4);
         contractFault("let 1 c c ?;", 3, 6);
         contractFault("let 1 a a ?;", 3, 8);
+        contractFault("let 1 a c ?;", 3, 8);
         contractFault("let 1 a b ?;", 1, 10);
         sentenceFault("shore or or ?", 1, 9);
+        sentenceFault("dry < or ?", 1, 6);
+        sentenceFault("dry or ?", 1, 4);
     }
 
     /** "of one TOKEN the least" */
