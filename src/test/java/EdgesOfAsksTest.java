@@ -39,6 +39,7 @@ public final class EdgesOfAsksTest {
         promise40Said();
         promise40Signs();
         promise41And42();
+        promise42AllTownsAndMonths();
         promise43Count();
         check.end();
     }
@@ -327,6 +328,11 @@ public final class EdgesOfAsksTest {
         int[] thirteen = java.util.Arrays.copyOf(twelve, 39);
         thirteen[36] = 12;
         check.due("leaks() of thirteen", Check.leaks(river, thirteen), -1);
+        // What another tape told of a month counts nothing for this one.
+        for (int month = 0; month < 11; month++) {
+            check.due("leaks() of month " + month, Check.leaks(river, month, 0, 1), 0);
+            check.due("leaks() of month 11 alone", Check.leaks(river, 11, 0, 0), 108);
+        }
         check.due("leaks() of a level that never is", Check.leaks(river, 0, 0, 1), 0);
         check.due("leaks() of 65535", Check.leaks(river, 0, 255, 255), 0);
         check.due("leaks() of nothing, no towns", new RentRiver().leaks(), -1);
@@ -896,6 +902,61 @@ public final class EdgesOfAsksTest {
         check.unchanged("restore(1) again", before, river);
         check.due("restore(0)", river.restore(0), true);
         check.due("bid(0, 9) as kept in place 0", river.bid(0, 9), 4);
+    }
+
+    /** Eight towns, forty bids, twelve months of each row, all of them told by a number of their own. */
+    private static RentRiver all(int seed) {
+        StringBuilder plain = new StringBuilder("move 1;fish 500;patience 12;");
+        for (int month = 0; month < 12; month++) {
+            plain.append("water ").append(month).append(' ').append(seed + 3 * month).append(';');
+        }
+        for (int town = 0; town < 8; town++) {
+            char name = (char) ('a' + town);
+            plain.append("town ").append(name).append(' ').append(town).append(" 99 ").append(seed % 5 + 1);
+            plain.append(" 9").append(town).append(";mill ").append(name).append(' ').append(seed + town);
+            plain.append(";field ").append(name).append(" 1 ").append(town + 1).append(';');
+        }
+        RentRiver river = Check.river(plain.toString());
+        for (int i = 0; i < 40; i++) {
+            check.due("offer()", river.offer(i % 8, i % 12, seed + i), true);
+        }
+        StringBuilder deals = new StringBuilder();
+        for (int month = 1; month < 12; month += 2) {
+            deals.append("let ").append(month).append(' ').append((char) ('a' + month % 8)).append(' ');
+            deals.append((char) ('a' + (month + seed) % 8)).append(' ').append(seed + month).append(';');
+        }
+        check.due("contracts()", Check.contracts(river, deals.toString()), 6);
+        check.due("sentence()", Check.sentence(river, "purse > " + (90 + seed) + " or place > 5"), 2);
+        river.begin();
+        river.on(12);
+        return river;
+    }
+
+    /** "They are as kept in place k": of the last town and the last month, too. */
+    private static void promise42AllTownsAndMonths() {
+        RentRiver river = all(2);
+        Seen before = Seen.of(river);
+        check.due("image(1)", river.image(1), true);
+        Check.plain(river, "");
+        check.due("restore(1) over nothing", river.restore(1), true);
+        check.unchanged("an empty plain", before, river);
+        // Nothing of it shines through where an object had more than the image tells.
+        RentRiver other = all(3);
+        other.image(0);
+        RentRiver bare = Check.river("town a 0 9 0 9;");
+        bare.begin();
+        bare.on(12);
+        Check.plain(other, "town a 0 9 0 9;");
+        other.begin();
+        other.on(12);
+        check.unchanged("an image kept", Seen.of(bare), other);
+        other.image(1);
+        other.restore(0);
+        check.unchanged("a bare plain", Seen.of(all(3)), other);
+        other.restore(1);
+        check.unchanged("a full one", Seen.of(bare), other);
+        other.restore(0);
+        check.unchanged("a bare plain", Seen.of(all(3)), other);
     }
 
     private static void promise43Count() {
