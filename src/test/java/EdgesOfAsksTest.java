@@ -335,7 +335,11 @@ public final class EdgesOfAsksTest {
         }
         check.due("leaks() of a level that never is", Check.leaks(river, 0, 0, 1), 0);
         check.due("leaks() of 65535", Check.leaks(river, 0, 255, 255), 0);
+        // Without towns a month alone is as told, and nothing leaks.
         check.due("leaks() of nothing, no towns", new RentRiver().leaks(), -1);
+        check.due("leaks() of months, no towns", Check.leaks(new RentRiver(), 0, 1, 11), 0);
+        check.due("leaks() of month 12, no towns", Check.leaks(new RentRiver(), 0, 12), -1);
+        check.due("leaks() of a month twice, no towns", Check.leaks(new RentRiver(), 4, 4), -1);
     }
 
     /** "loses n more (1 to 9; as much as there is) at the end of each MONTH" */
