@@ -1634,14 +1634,15 @@ public final class RentRiver {
      * Of the plans that water all towns the SEA stands in the first of the cheapest ones in all
      * months or in none: a month of the SEA put to the town ahead of it (or behind it, at the
      * start) costs no more and comes earlier. So the search tries towns alone, in their order, and
-     * a plan that is found later must be cheaper to be taken. What the later half of the months
-     * can bring is listed once, so that months without WATER don't make the search long.
+     * a plan that is found later must be cheaper to be taken. What the last months can bring is
+     * listed once, so that months without WATER don't make the search long.
      */
     static final class Cheapest {
         static final int TOWNS = 3;
-        private static final int HALF = MONTHS / 2;
-        /** Three towns for each of six months. */
-        private static final int TAILS = 729;
+        /** The first of the last months. */
+        private static final int TAIL = 8;
+        /** Three towns for each of the last four months. */
+        private static final int TAILS = 81;
         /** More than any plan costs. */
         private static final int BEYOND_ALL = 1000000;
 
@@ -1660,7 +1661,7 @@ public final class RentRiver {
         /** What the months from one on bring a town, and bring at most if each goes to the best. */
         private final int[][] rest = new int[TOWNS][MONTHS + 1];
         private final int[] restBest = new int[MONTHS + 1];
-        /** The ways of the later half, the first one first: what each brings a town and costs. */
+        /** The ways of the last months, the first one first: what each brings a town and costs. */
         private final int[][] tailGains = new int[TOWNS][TAILS];
         private final int[] tailCosts = new int[TAILS];
         private final int[] tailTowns = new int[TAILS];
@@ -1714,14 +1715,14 @@ public final class RentRiver {
             }
         }
 
-        /** Puts each town ahead of each way that is listed, from the last month to the half. */
+        /** Puts each town ahead of each way that is listed, from the last month back. */
         private void listTails() {
             tails = 1;
             tailCosts[0] = 0;
             for (int town = 0; town < TOWNS; town++) {
                 tailGains[town][0] = 0;
             }
-            for (int month = MONTHS - 1; month >= HALF; month--) {
+            for (int month = MONTHS - 1; month >= TAIL; month--) {
                 // The first town comes last: its ways take the places of those that are read.
                 for (int town = towns - 1; town >= 0; town--) {
                     for (int i = 0; i < tails; i++) {
@@ -1758,7 +1759,7 @@ public final class RentRiver {
             if (!canBe(month)) {
                 return;
             }
-            if (month >= HALF) {
+            if (month >= TAIL) {
                 tryTails(at, paid);
                 return;
             }
@@ -1840,7 +1841,7 @@ public final class RentRiver {
                 if (all < bestPaid && meetsNeeds(i)) {
                     all += costOf(at, tailTowns[i]);
                     if (all < bestPaid) {
-                        keepPath(HALF, all);
+                        keepPath(TAIL, all);
                         keepTail(i);
                     }
                 }
@@ -1859,7 +1860,7 @@ public final class RentRiver {
         /** The number of a way, written by the numbers of the towns, tells its towns. */
         private void keepTail(int tail) {
             int left = tail;
-            for (int month = MONTHS - 1; month >= HALF && towns > 0; month--) {
+            for (int month = MONTHS - 1; month >= TAIL && towns > 0; month--) {
                 best[month] = left % towns;
                 left /= towns;
             }
